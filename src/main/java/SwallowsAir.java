@@ -19,6 +19,7 @@ public final class SwallowsAir {
     private static final int WISHES = 8;
     private static final int KITES = 10;
     private static final int EAVES = 6;
+    private static final int MOST_WAY = 99;
     private static final int POINTS = 8;
     private static final int KEPT = 6;
 
@@ -301,10 +302,7 @@ public final class SwallowsAir {
     }
 
     public int through(int a, int b, int what) {
-        if (!isCell(a) || !isCell(b) || !within(what, 1)) {
-            return NONE;
-        }
-        if (!airThought.walks(a, b)) {
+        if (!isCell(a) || !isCell(b) || !within(what, 1) || !airThought.walks(a, b)) {
             return NONE;
         }
         return what == 0 ? airThought.foundSteps : airThought.foundWays;
@@ -367,7 +365,7 @@ public final class SwallowsAir {
     }
 
     public boolean way(int swallow, int eave, int v) {
-        if (!within(swallow, EAVES - 1) || !within(eave, EAVES - 1) || !within(v, 99)) {
+        if (!within(swallow, EAVES - 1) || !within(eave, EAVES - 1) || !within(v, MOST_WAY)) {
             return false;
         }
         now.told.ways[EAVES * swallow + eave] = v;
@@ -1772,7 +1770,7 @@ public final class SwallowsAir {
             rest[all] = 0;
             for (int taken = all - 1; taken >= 0; taken--) {
                 int swallow = Integer.bitCount(taken);
-                int least = Integer.MAX_VALUE;
+                int least = EAVES * MOST_WAY;
                 for (int eave = 0; eave < EAVES; eave++) {
                     if ((taken >> eave & 1) == 0) {
                         least = Math.min(least, costOf(swallow, eave, taken));
@@ -1786,7 +1784,8 @@ public final class SwallowsAir {
         private int costOf(int swallow, int eave, int taken) {
             int at = EAVES * swallow + eave;
             int then = taken | 1 << eave;
-            return within(at, told.ways.length - 1) && within(then, rest.length - 1) ? told.ways[at] + rest[then] : 0;
+            boolean can = within(at, told.ways.length - 1) && within(then, rest.length - 1);
+            return can ? told.ways[at] + rest[then] : EAVES * MOST_WAY;
         }
 
         /** Swallow by swallow the first eave that keeps to the least sum. */

@@ -57,7 +57,13 @@ public final class TextTest {
         Due.faulty(x, 0, "rents 1;", 1, 0);
         Due.faulty(x, 0, "ren 1;", 1, 0);
         Due.faulty(x, 0, " Rent 1;", 1, 1);
-        Due.faulty(x, 0, "rentX 1;", 1, 0);
+        for (char letter : "azAZ".toCharArray()) {
+            Due.faulty(x, 0, "rent" + letter + " 1;", 1, 0);
+        }
+        for (char none : "@[`{_'.:,".toCharArray()) {
+            Due.faulty(x, 0, "rent" + none + " 1;", 1, 4);
+            Due.faulty(x, 0, "rent 1" + none + ";", 1, 6);
+        }
         Due.faulty(x, 0, "rent\t1;", 1, 4);
         Due.faulty(x, 0, "rent 1;\r", 1, 7);
         Due.faulty(x, 0, "rent 1,5;", 1, 6);

@@ -145,6 +145,10 @@ public final class ThoughtTest {
                 Due.due("through(0, " + cell + ")", x.through(0, cell, what), -1);
             }
         }
+        Due.due("wide(0)", x.wide(0), 80);
+        Due.due("wide(1)", x.wide(1), 0);
+        Due.due("wide(2)", x.wide(2), -1);
+        Due.due("wide(-1)", x.wide(-1), -1);
         Due.due("through(0, 1, 2)", x.through(0, 1, 2), -1);
         Due.due("through(0, 1, -1)", x.through(0, 1, -1), -1);
         Due.due("through(97, 0, 1)", x.through(97, 0, 1), 11440);
@@ -163,6 +167,12 @@ public final class ThoughtTest {
         Due.due("of none", x.beside(1), 0);
         Due.due("wish", x.wish(99, 99, 0), 1);
         Due.due("worth nothing", x.beside(1), 0);
+        x.wish(7, 7, 5);
+        x.wish(7, 7, 6);
+        x.wish(8, 20, 1);
+        x.wish(20, 30, 1);
+        Due.due("on one day", x.beside(0), 7);
+        Due.due("on one day", x.beside(1), 12);
         Random random = new Random(2);
         for (int n = 0; n < 60; n++) {
             Due.due("wish(NONE)", x.wish(-1, -5, 1000), 0);
@@ -370,7 +380,15 @@ public final class ThoughtTest {
         }
         SwallowsAir x = new SwallowsAir();
         Due.due("cites(-1, 0)", x.cites(-1, 0), -1);
+        Due.due("cites(16, 0)", x.cites(16, 0), -1);
         Due.due("cites(16, 1)", x.cites(16, 1), -1);
+        Due.lines(x, 3, "case 0 follows 1; case 2 follows 0; case 15 follows 2;", 3);
+        Due.due("cites(0, 0)", x.cites(0, 0), 4 + 32768);
+        Due.due("cites(0, 1)", x.cites(0, 1), 1);
+        Due.lines(x, 3, "", 0);
+        Due.due("cites(0, 0)", x.cites(0, 0), 0);
+        Due.due("cites(0, 1)", x.cites(0, 1), 0);
+        Due.due("cites(15, 1)", x.cites(15, 1), 15);
         Due.due("cites(0, 2)", x.cites(0, 2), -1);
         Due.due("cites(0, -1)", x.cites(0, -1), -1);
     }
