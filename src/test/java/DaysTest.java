@@ -10,6 +10,7 @@ public final class DaysTest {
         leaseSees();
         firstOfWinter();
         thought();
+        ten();
         Due.close("DaysTest");
     }
 
@@ -239,5 +240,33 @@ public final class DaysTest {
         Due.due("what can be undone stays", x.look(13), 1);
         Due.due("the next number stays", x.take(0, 0, 5, 0, 1), 1);
         Due.due("no thought outlasts", x.days(1), 1);
+    }
+
+    /** As many people, swallows and uses as there can be. */
+    private static void ten() {
+        SwallowsAir x = new SwallowsAir();
+        for (int i = 0; i < 10; i++) {
+            x.person(0, i, 100);
+            x.swallow(i, 1);
+            x.set(3, i, 7);
+        }
+        for (int i = 0; i < 16; i++) {
+            x.take(i % 10, 0, i % 10, 11 * (i / 10), 4);
+        }
+        Due.due("ten alike: who begins loses", x.game(0), -1);
+        x.set(3, 9, 6);
+        Due.due("the first", x.game(0), 0);
+        x.set(5, 0, 269);
+        Due.due("fined of all", x.goes(1, 2), 16 * 20);
+        Due.due("marks of all", x.goes(1, 3), 16);
+        Due.due("fined of all", x.goes(2, 2), 16 * 20);
+        Due.due("marks of all", x.goes(2, 3), 0);
+        Due.due("rent", x.goes(2, 0), 320);
+        Due.due("uses", x.goes(2, 1), 0);
+        Due.due("days(2)", x.days(2), 16);
+        Due.due("marks of the last", x.bird(9, 2), 0);
+        Due.due("stoops of the last", x.of(9, 3), 0);
+        Due.due("fined of the first", x.of(0, 4), 40);
+        Due.due("fined of the last", x.of(9, 4), 20);
     }
 }
