@@ -571,8 +571,11 @@ public final class SwallowsAir {
 
     private void keep() {
         newest = (newest + 1) % KEPT;
-        kept[newest].becomes(now.world);
-        keptCount = Math.min(KEPT, keptCount + 1);
+        World place = kept[newest];
+        if (place != null) {
+            place.becomes(now.world);
+            keptCount = Math.min(KEPT, keptCount + 1);
+        }
     }
 
     private void forgetKept() {
