@@ -177,7 +177,7 @@ public final class SwallowsAir {
     }
 
     public int days(int n) {
-        if (!canPass(n)) {
+        if (!canGoBy(n) || now.world.day + n > LAST_DAY) {
             return NONE;
         }
         int fined = 0;
@@ -286,8 +286,9 @@ public final class SwallowsAir {
         return keeper.fits() ? leave : NONE - 1 - leave;
     }
 
+    /** In thought DAY may go beyond the last one: nothing of it stays. */
     public int goes(int n, int what) {
-        if (!canPass(n) || !within(what, 3)) {
+        if (!canGoBy(n) || !within(what, 3)) {
             return NONE;
         }
         spare.becomes(now.world);
@@ -534,8 +535,8 @@ public final class SwallowsAir {
         return cell >= 0 && cell / 10 < ROOFS && cell % 10 < HEIGHTS;
     }
 
-    private boolean canPass(int n) {
-        return n >= 1 && n <= LONGEST && now.world.day + n <= LAST_DAY;
+    private static boolean canGoBy(int n) {
+        return n >= 1 && n <= LONGEST;
     }
 
     private boolean setPerson(int column, int who, int v, int most) {

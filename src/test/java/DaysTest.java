@@ -10,6 +10,7 @@ public final class DaysTest {
         leaseSees();
         firstOfWinter();
         thought();
+        thoughtBeyondLastDay();
         ten();
         Due.close("DaysTest");
     }
@@ -25,9 +26,7 @@ public final class DaysTest {
         Due.due("day", x.look(6), 60);
         x.set(5, 0, 9990);
         Due.due("days(10)", x.days(10), -1);
-        Due.due("goes(10, 1)", x.goes(10, 1), -1);
         Due.due("day", x.look(6), 9990);
-        Due.due("goes(9, 1)", x.goes(9, 1), 0);
         Due.due("days(9)", x.days(9), 0);
         Due.due("day", x.look(6), 9999);
         Due.due("days(1)", x.days(1), -1);
@@ -240,6 +239,34 @@ public final class DaysTest {
         Due.due("what can be undone stays", x.look(13), 1);
         Due.due("the next number stays", x.take(0, 0, 5, 0, 1), 1);
         Due.due("no thought outlasts", x.days(1), 1);
+    }
+
+    /** Only days() is held to DAY 9999; in thought it is winter there, and uses wear on. */
+    private static void thoughtBeyondLastDay() {
+        SwallowsAir x = new SwallowsAir();
+        x.person(0, 0, 50);
+        x.swallow(0, 9);
+        Due.lines(x, 1, "on 9999 person 0 kite at 3 0 0 for 2;", 1);
+        x.set(5, 0, 9990);
+        x.take(0, 0, 0, 0, 30);
+        Due.due("up to the last", x.goes(9, 1), 1);
+        Due.due("the last day's petition", x.goes(10, 1), 2);
+        Due.due("ends on the next", x.goes(11, 1), 1);
+        Due.due("the other one's last day", x.goes(29, 1), 1);
+        Due.due("ends", x.goes(30, 1), 0);
+        Due.due("free", x.goes(60, 0), 0);
+        Due.due("none is fined", x.goes(60, 2), 0);
+        Due.due("none marks", x.goes(60, 3), 0);
+        x.set(5, 0, 9999);
+        for (int what = 0; what < 4; what++) {
+            Due.due("goes(60, " + what + ")", x.goes(60, what), 0);
+        }
+        Due.due("goes(61, 0)", x.goes(61, 0), -1);
+        Due.due("goes(0, 0)", x.goes(0, 0), -1);
+        Due.due("goes(1, 1)", x.goes(1, 1), 2);
+        Due.due("day stays", x.look(6), 9999);
+        Due.due("uses stay", x.look(2), 1);
+        Due.due("days(1)", x.days(1), -1);
     }
 
     /** As many people, swallows and uses as there can be. */

@@ -384,7 +384,7 @@ final class Model {
     }
 
     int goes(int n, int what) {
-        if (!in(n, 1, 60) || s.day + n > 9999 || !in(what, 0, 3)) {
+        if (!in(n, 1, 60) || !in(what, 0, 3)) {
             return -1;
         }
         State real = s;
