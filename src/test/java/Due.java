@@ -4,8 +4,26 @@ import java.nio.charset.StandardCharsets;
 final class Due {
     private static int wrong = 0;
     private static int asked = 0;
+    private static int sentences = 0;
+    private static int askedBefore = 0;
+    private static String where = "";
 
     private Due() {
+    }
+
+    /** What is asked from here on belongs to this sentence of the document. */
+    static void sentence(String place, String words) {
+        closeSentence();
+        where = place + " (" + words + "): ";
+        askedBefore = asked;
+        sentences++;
+    }
+
+    private static void closeSentence() {
+        if (!where.isEmpty() && asked == askedBefore) {
+            wrong++;
+            System.out.println(where + "nothing was asked for it");
+        }
     }
 
     static void due(String call, long got, long want) {
@@ -13,13 +31,22 @@ final class Due {
         if (got != want) {
             wrong++;
             if (wrong <= 40) {
-                System.out.println(call + " answered " + got + ", due is " + want);
+                System.out.println(where + call + " answered " + got + ", due is " + want);
             }
         }
     }
 
     static void due(String call, boolean got, boolean want) {
         due(call, got ? 1 : 0, want ? 1 : 0);
+    }
+
+    /** What was seen before a call and behind it, where the call has to leave all as it was. */
+    static void same(String call, String behind, String before) {
+        asked++;
+        if (!behind.equals(before)) {
+            wrong++;
+            System.out.println(where + call + " left\n  " + behind + "\nbefore it was\n  " + before);
+        }
     }
 
     /** Puts the bytes of a text on the tape, which is empty, and cuts it behind them. */
@@ -57,7 +84,9 @@ final class Due {
     }
 
     static void close(String name) {
-        System.out.println(name + ": " + asked + " answers, " + wrong + " not as due");
+        closeSentence();
+        System.out.println(name + ": " + (sentences == 0 ? "" : sentences + " sentences, ") + asked + " answers, "
+                + wrong + " not as due");
         if (wrong != 0 || asked == 0) {
             System.exit(1);
         }
