@@ -74,7 +74,7 @@ public final class AskTest {
         SwallowsAir x = summerAir();
         int state = 0;
         int given = 0;
-        for (int i = 0; i < 60; i++) {
+        for (int i = 0; i < 30; i++) {
             state = draw(state);
             int leave = 800 - 60 * 4 - 100;
             int rent = Math.min(x.of(0, 1), 6);

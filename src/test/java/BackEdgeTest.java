@@ -20,6 +20,8 @@ public final class BackEdgeTest {
         image();
         imageNone();
         imageOfAll();
+        imageOfTheBook();
+        imageOfRows();
         imageButTape();
         imageButUndo();
         imageMoreThanOnce();
@@ -416,6 +418,65 @@ public final class BackEdgeTest {
         x.image(false);
         Due.due("the wish that was", x.beside(0), 7);
         Due.due("how many there were", x.wish(50, 50, 1), 2);
+    }
+
+    private static void imageOfTheBook() {
+        Due.sentence("Terms 4", "THE IMAGE: all that is .. (each line of THE BOOK)");
+        for (int lines : new int[] {7, 31, 150}) {
+            SwallowsAir x = Airs.winter();
+            for (int i = 0; x.look(7) + 1 < lines; i++) {
+                x.take(0, 0, 0, 0, 9);
+                x.ends(i);
+            }
+            if (x.look(7) < lines) {
+                x.take(0, 0, 0, 0, 9);
+            }
+            int[] before = new int[6];
+            for (int i = 0; i < 6; i++) {
+                before[i] = x.book(lines - 6 + i, 1);
+            }
+            Due.due("lines", x.look(7), lines);
+            x.image(true);
+            for (int i = 0; i < 6; i++) {
+                x.undo();
+            }
+            for (int i = 0; i < 3; i++) {
+                x.ask(1, 0, 5 + i, 0, 9);
+                x.ask(1, 0, 5 + i, 77, 9);
+            }
+            Due.due("another line there", x.book(lines - 1, 1), 0);
+            x.image(false);
+            for (int i = 0; i < 6; i++) {
+                Due.due("line " + i + " of the last six", x.book(lines - 6 + i, 1), before[i]);
+            }
+        }
+    }
+
+    private static void imageOfRows() {
+        Due.sentence("Terms 4", "THE IMAGE: all that .. was told (each wish, kite and point)");
+        SwallowsAir x = Airs.winter();
+        for (int i = 0; i < 8; i++) {
+            x.wish(i, i, i + 1);
+            x.point(i + 1, 0, i + 1, 1);
+            x.kite(i, 50 - i);
+        }
+        x.image(true);
+        x.wish(-1, 0, 0);
+        x.point(-1, 0, 0, 0);
+        x.kite(-1, 0);
+        for (int i = 0; i < 8; i++) {
+            x.wish(5, 5, 50 + i);
+            x.point(0, 900, 900, 2);
+            x.kite(i, i);
+        }
+        Due.due("worth", x.beside(0), 57);
+        Due.due("sum", x.arbiter(0), 14400);
+        Due.due("crossings", x.strings(0), 0);
+        x.image(false);
+        Due.due("worth as it was", x.beside(0), 36);
+        Due.due("sum as it was", x.arbiter(0), 36);
+        Due.due("to the first as it was", x.arbiter(1), 8);
+        Due.due("crossings as they were", x.strings(0), 28);
     }
 
     private static void imageButTape() {

@@ -30,6 +30,7 @@ public final class CallEdgeTest {
         end();
         endNot();
         text();
+        textToldAnew();
         textNoSuch();
         textFault();
         fault();
@@ -450,6 +451,39 @@ public final class CallEdgeTest {
             }
             Due.due("the empty tape is a text", x.text(k), 0);
             Due.due("without lines", x.look(9 + k), 0);
+        }
+    }
+
+    private static void textToldAnew() {
+        Due.sentence("Promise 13", "The TAPE .. is TEXT k (each time anew, whatever was told before)");
+        SwallowsAir x = Airs.winter();
+        x.take(0, 0, 0, 0, 1);
+        for (int n = 0; n < 60; n++) {
+            Due.due("text(0)", Due.tell(x, 0, "rent " + n + "+1-1 when not 2=1;"), 1);
+            Due.due("rent", x.use(0, 9), n);
+        }
+        x = Airs.winter();
+        x.take(0, 0, 0, 0, 1);
+        for (int n = 0; n < 10; n++) {
+            Due.due("text(0)", Due.tell(x, 0, "rent 900 when 1=2;fine 7*1*1+0;".repeat(8 - n % 8)), 16 - 2 * (n % 8));
+            Due.due("rent", x.use(0, 9), 1);
+            Due.due("fine", x.use(0, 10), 7);
+        }
+        x = Airs.winter();
+        for (int n = 0; n < 20; n++) {
+            int roof = n % 10;
+            Due.due("text(2)", Due.tell(x, 2, "turn " + roof + " to " + n % 2 + ";"), 1);
+            Due.due("lease", x.lease(roof), n % 2);
+            Due.due("the one before", x.lease((roof + 9) % 10), -1);
+            int one = n % 16;
+            Due.due("text(3)", Due.tell(x, 3, "case " + one + " follows " + (one + 1) % 16 + ";"), 1);
+            Due.due("FOUNDS", x.cites((one + 1) % 16, 0), 1 << one);
+            Due.due("the one before", x.cites(one, 0), 0);
+        }
+        Due.due("text(3)", x.text(3), 0);
+        for (int n = 0; n < 16; n++) {
+            Due.due("FOUNDS of " + n, x.cites(n, 0), 0);
+            Due.due("ORDER of " + n, x.cites(n, 1), n);
         }
     }
 

@@ -13,8 +13,10 @@ public final class PartFourEdgeTest {
         fewestSteps();
         inHowManyWays();
         mostCells();
+        wideOfOne();
         leastCell();
         shareADay();
+        threeShareADay();
         mostWorth();
         leastSetOfWishes();
         cross();
@@ -22,6 +24,7 @@ public final class PartFourEdgeTest {
         waysAtFirst();
         leastSum();
         firstWays();
+        eaveAlone();
         founds();
         itselfByARound();
         order();
@@ -38,6 +41,7 @@ public final class PartFourEdgeTest {
         ballHighest();
         ballBack();
         gameMoves();
+        gameOfThree();
         gameLeastPerson();
         gameFewest();
         leapsOf3();
@@ -235,6 +239,40 @@ public final class PartFourEdgeTest {
         Due.due("least CELL", x.wide(1), 4);
     }
 
+    private static void wideOfOne() {
+        Due.sentence("Terms 4", "WIDE: .. that are a rectangle (of one HEIGHT, of one ROOF)");
+        for (int height : new int[] {0, 3, 7}) {
+            SwallowsAir x = Airs.winter();
+            for (int roof = 0; roof < 5; roof++) {
+                for (int i = 0; i < 2; i++) {
+                    if (height > 0 && i == 0) {
+                        x.take(0, 0, roof, height - 1, 30);
+                    }
+                    if (height < 7 && i == 1) {
+                        x.take(0, 0, roof, 10 * (height + 1) + 7, 30);
+                    }
+                }
+            }
+            for (int roof = 5; roof < 10; roof++) {
+                x.take(0, 0, roof, 7, 30);
+            }
+            Due.due("one HEIGHT", x.wide(0), 5);
+            Due.due("least CELL", x.wide(1), height);
+            x.ends(x.use(x.look(2) - 1, 0));
+            Due.due("one ROOF is more", x.wide(0), 8);
+            Due.due("least CELL", x.wide(1), 90);
+        }
+        SwallowsAir x = Airs.winter();
+        for (int roof = 0; roof < 10; roof++) {
+            x.take(0, 0, roof, 17, 30);
+        }
+        Due.due("the lowest of all", x.wide(0), 10);
+        Due.due("least CELL", x.wide(1), 0);
+        x.ends(4);
+        Due.due("ten are more than eight", x.wide(0), 10);
+        Due.due("least CELL", x.wide(1), 0);
+    }
+
     private static void leastCell() {
         Due.sentence("Terms 4", "its least CELL (of several rectangles that with the least ROOF, then least HEIGHT, then least last ROOF)");
         SwallowsAir x = Airs.winter();
@@ -274,6 +312,28 @@ public final class PartFourEdgeTest {
             Due.due("worth of " + of, x.beside(0), w[4] == 1 ? 5 : 3);
             Due.due("set of " + of, x.beside(1), w[4] == 1 ? 3 : 2);
         }
+    }
+
+    private static void threeShareADay() {
+        Due.sentence("Terms 4", "a set of which no two share a DAY (of three that share one)");
+        int[][] worths = {{5, 5, 1}, {5, 1, 5}, {1, 5, 5}, {3, 2, 4}};
+        int[] best = {5, 5, 5, 4};
+        int[] sets = {1, 1, 2, 4};
+        SwallowsAir x = new SwallowsAir();
+        for (int i = 0; i < 4; i++) {
+            x.wish(-1, 0, 0);
+            x.wish(0, 5, worths[i][0]);
+            x.wish(5, 9, worths[i][1]);
+            x.wish(3, 7, worths[i][2]);
+            Due.due("worth", x.beside(0), best[i]);
+            Due.due("set", x.beside(1), sets[i]);
+        }
+        x.wish(-1, 0, 0);
+        x.wish(0, 5, 3);
+        x.wish(6, 9, 2);
+        x.wish(10, 11, 4);
+        Due.due("others then, that share none: worth", x.beside(0), 9);
+        Due.due("set", x.beside(1), 7);
     }
 
     private static void mostWorth() {
@@ -428,6 +488,21 @@ public final class PartFourEdgeTest {
         int[] last = {5, 1, 0, 2, 3, 4};
         for (int s = 0; s < 6; s++) {
             Due.due("eave of " + s, x.eaves(10 + s), last[s]);
+        }
+    }
+
+    private static void eaveAlone() {
+        Due.sentence("Terms 4", "the eave of SWALLOW s (asked before the sum, and when ways were told anew)");
+        for (int s = 0; s < 6; s++) {
+            SwallowsAir x = new SwallowsAir();
+            for (int i = 0; i < 36; i++) {
+                x.way(i / 6, i % 6, i / 6 + i % 6 == 5 ? 3 : 9);
+            }
+            Due.due("eave of " + s, x.eaves(10 + s), 5 - s);
+            for (int i = 0; i < 36; i++) {
+                x.way(i / 6, i % 6, i / 6 == i % 6 ? 3 : 9);
+            }
+            Due.due("eave of " + s + " then", x.eaves(10 + s), s);
         }
     }
 
@@ -668,6 +743,39 @@ public final class PartFourEdgeTest {
             Due.due("two alike at " + stoops, stooping(stoops, stoops).game(0), -1);
         }
         Due.due("nobody", stooping().game(0), -1);
+    }
+
+    private static int then(int stoops, int move) {
+        return move == 0 ? stoops - 1 : stoops / 2;
+    }
+
+    /** Of every three that stoop: tried out to the end, from the least sum up. */
+    private static void gameOfThree() {
+        Due.sentence("Terms 4", "GAME: .. the PERSON (of several the least), by how much (the fewest) who begins well lowers (of all threes)");
+        boolean[] wins = new boolean[512];
+        for (int sum = 0; sum <= 21; sum++) {
+            for (int all = 0; all < 512; all++) {
+                int[] stoops = {all & 7, all >> 3 & 7, all >> 6};
+                if (stoops[0] + stoops[1] + stoops[2] == sum) {
+                    int who = -1;
+                    int by = -1;
+                    for (int p = 0; p < 3; p++) {
+                        for (int move = 0; move < 2 && who == -1; move++) {
+                            int left = then(stoops[p], move);
+                            if (stoops[p] > 0 && !wins[all - (stoops[p] - left << 3 * p)]) {
+                                who = p;
+                                by = stoops[p] - left;
+                            }
+                        }
+                    }
+                    wins[all] = who >= 0;
+                    SwallowsAir x = stooping(stoops);
+                    String of = java.util.Arrays.toString(stoops);
+                    Due.due("who of " + of, x.game(0), who);
+                    Due.due("by how much of " + of, x.game(1), by);
+                }
+            }
+        }
     }
 
     private static void gameLeastPerson() {

@@ -20,6 +20,7 @@ public final class PartOneEdgeTest {
         swallows();
         sixteenUses();
         numbers();
+        oneOfSixteenEnds();
         toNotBelow();
         daysYet();
         leaves();
@@ -281,6 +282,24 @@ public final class PartOneEdgeTest {
         Due.due("2, though 0 is free again", x.take(0, 0, 0, 0, 1), 2);
         Due.due("they lie by number", x.use(0, 0), 1);
         Due.due("they lie by number", x.use(1, 0), 2);
+    }
+
+    private static void oneOfSixteenEnds() {
+        Due.sentence("Terms 1", "USES, 16 at most at a time, by number (one of sixteen ends)");
+        for (int gone : new int[] {0, 1, 7, 14, 15}) {
+            SwallowsAir x = Airs.winter();
+            Airs.takes(x, 16, 30);
+            Due.due("ends(" + gone + ")", x.ends(gone), true);
+            for (int i = 0; i < 15; i++) {
+                int number = i < gone ? i : i + 1;
+                Due.due("use(" + i + ", 0) without " + gone, x.use(i, 0), number);
+                Due.due("its ROOF", x.use(i, 3), number % 10);
+                Due.due("its from", x.use(i, 4), number / 10);
+            }
+            Due.due("use(15, 0)", x.use(15, 0), -1);
+            Due.due("the next", x.take(0, 0, 9, 77, 1), 16);
+            Due.due("lies last", x.use(15, 0), 16);
+        }
     }
 
     private static void toNotBelow() {

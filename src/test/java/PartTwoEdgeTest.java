@@ -33,7 +33,9 @@ public final class PartTwoEdgeTest {
         untold();
         held();
         facts();
+        factsOfWhatIsAsked();
         conditions();
+        comparisonsJoined();
         Due.close("PartTwoEdgeTest");
     }
 
@@ -321,6 +323,15 @@ public final class PartTwoEdgeTest {
         bad(1, "on 00001 person 0 kite at 0 0 0 for 1;", 1, 3);
         good(1, "on 0001 person 0001 kite at 0009 0007 0007 for 0030;", 1);
         good(3, "case 0015 follows 0000;", 1);
+        /* Too long ones whose first digits are the number of a sign, of a word or of a digit. */
+        for (char sign : ";+-*/()<=>".toCharArray()) {
+            bad(0, "rent 1 " + String.format("%04d0", (int) sign), 1, 7);
+            bad(0, "rent 1 when 1 " + String.format("%04d0", (int) sign) + "1;", 1, 14);
+        }
+        for (int n = 0; n < 17; n++) {
+            bad(0, String.format("%04d0", n) + " 1;", 1, 0);
+            bad(0, "rent " + String.format("%04d0", n) + ";", 1, 5);
+        }
         /* The signs just beside the digits are no digits. */
         bad(0, "rent 1/;", 1, 7);
         bad(0, "rent 1:;", 1, 6);
@@ -683,6 +694,58 @@ public final class PartTwoEdgeTest {
         Due.due("nests then", x.use(at, 8), 1);
         Due.tell(x, 2, "turn 9 to 2;");
         Due.due("a LEASE is no nest", x.use(at, 8), 1);
+    }
+
+    /** Two people, so that a row read at a wrong place tells another number. */
+    private static void factsOfWhatIsAsked() {
+        Due.sentence("Terms 2", "What THE LAW tells of a use for a word (of one that is asked for, and has not begun)");
+        int[] want = {4, 6, 29, 8, 5, 35, 1, 1, 2, 101};
+        String[] names = FACTS.split(" ");
+        for (int i = 0; i < 10; i++) {
+            for (int given = 0; given < 2; given++) {
+                SwallowsAir x = new SwallowsAir();
+                x.person(2, 0, 900);
+                x.person(5, 1, 900);
+                x.swallow(8, 1);
+                x.set(5, 0, 100);
+                x.take(1, 0, 8, 0, 7);
+                x.take(1, 0, 3, 34, 30);
+                x.days(1);
+                Airs.law(x, given == 1 ? "leave 1000; rent " + names[i] + ";" : "leave " + names[i] + ";");
+                x.state(Airs.stateFor(999));
+                Due.due("ask", x.ask(1, 4, 8, 36, 29), given == 1 ? 2 : -1);
+                int line = x.look(7) - 1;
+                Due.due((given == 1 ? "rent by " : "leave by ") + names[i], x.book(line, 3), want[i]);
+                Due.due("would by " + names[i], x.would(1, 4, 5, 36, 29) >= 0, true);
+            }
+        }
+        SwallowsAir x = Airs.summer();
+        x.state(Airs.stateFor(0));
+        x.ask(0, 5, 2, 36, 4);
+        Due.due("rent untold: days and high", x.book(0, 3), 10);
+        x.state(Airs.stateFor(999));
+        x.ask(0, 5, 2, 77, 4);
+        Due.due("leave untold", x.book(1, 3), 800 - 420 - 100);
+    }
+
+    private static void comparisonsJoined() {
+        Due.sentence("Terms 2", "A = C {and C}. C = E (< | = | >) E (each comparison joined with each)");
+        String[] so = {"1<2", "2=2", "2>1"};
+        String[] not = {"2<1", "1=2", "1>2"};
+        for (int i = 0; i < 3; i++) {
+            Due.due("not " + so[i], whenIs("not " + so[i]), false);
+            Due.due("not " + not[i], whenIs("not " + not[i]), true);
+            for (int j = 0; j < 3; j++) {
+                Due.due(so[i] + " and " + so[j], whenIs(so[i] + " and " + so[j]), true);
+                Due.due(so[i] + " and " + not[j], whenIs(so[i] + " and " + not[j]), false);
+                Due.due(not[i] + " and " + so[j], whenIs(not[i] + " and " + so[j]), false);
+                Due.due(so[i] + " or " + not[j], whenIs(so[i] + " or " + not[j]), true);
+                Due.due(not[i] + " or " + so[j], whenIs(not[i] + " or " + so[j]), true);
+                Due.due(not[i] + " or " + not[j], whenIs(not[i] + " or " + not[j]), false);
+                Due.due("not(" + so[i] + " or ..)", whenIs("not (" + so[i] + " or " + so[j] + ")"), false);
+                Due.due("not " + not[i] + " and ..", whenIs("not " + not[i] + " and " + so[j]), true);
+            }
+        }
     }
 
     private static void conditions() {

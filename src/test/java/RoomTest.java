@@ -69,7 +69,7 @@ public final class RoomTest {
 
     private static void callsOn(SwallowsAir x) {
         x.set(5, 0, 80);
-        for (int n = 0; n < 12; n++) {
+        for (int n = 0; n < 9; n++) {
             x.feed(0x6c656176, 0x65203930, 0x30207768, 0x656e206e, 0x6f742068);
             x.feed(0x6967683e, 0x3620616e, 0x6420313d, 0x313b2020, 0x20202020);
             x.text(0);

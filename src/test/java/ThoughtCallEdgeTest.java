@@ -349,6 +349,10 @@ public final class ThoughtCallEdgeTest {
             Due.due("ORDER of " + n + " by a round", x.cites(n, 1), -1);
             Due.due("FOUNDS of " + n + " by a round", x.cites(n, 0), n == 0 || n == 15 ? 0x8001 : 0);
         }
+        Due.lines(x, 3, "case 3 follows 4;", 1);
+        Due.due("no round any more", x.cites(0, 1), 0);
+        Due.due("FOUNDS of 0 any more", x.cites(0, 0), 0);
+        Due.due("FOUNDS of 15 any more", x.cites(15, 0), 0);
     }
 
     private static void voice() {

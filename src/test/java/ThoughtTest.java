@@ -312,8 +312,8 @@ public final class ThoughtTest {
                     eavesIn(x, ways);
                 }
             }
-            x = n % 10 == 9 ? copyOf(ways) : x;
             eavesIn(x, ways);
+            x = copyOf(ways);
         }
     }
 
