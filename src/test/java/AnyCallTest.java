@@ -39,8 +39,11 @@ public final class AnyCallTest {
             x.swallow(i % 10, 1 + i % 9);
         }
         long all = 17;
-        for (int n = 0; n < 480; n++) {
+        int made = 20;
+        while (made < 480) {
+            made++;
             if (random.nextInt(40) == 0) {
+                made += 25;
                 Due.feed(x, texts.some(random.nextInt(4), x.look(0), x.look(1), x.look(6)));
             }
             Method call = calls.get(random.nextInt(calls.size()));
